@@ -149,6 +149,7 @@ public final class RatchetPost {
         letter[SENDER] = a;
         letter[RECEIVER] = b;
         letter[KIND] = active.isUnanswered() ? FIRST : FURTHER;
+        // In a FURTHER one these four stay 0, as the row was made: no row serves two envelopes.
         if (active.isUnanswered()) {
             letter[IDENTITY] = accounts[a].identity.publicKey;
             letter[EPHEMERAL] = active.base;
@@ -159,7 +160,7 @@ public final class RatchetPost {
         letter[NUMBER] = active.ns;
         letter[PREVIOUS] = active.pn;
         mixer.take(messageKey, active.sending);
-        letter[CIPHER] = text ^ cover();
+        letter[CIPHER] = text ^ mixer.wideWord(messageKey, 9, 0, 0, 0);
         letter[TAG] = tagOf(letter);
         active.ns++;
         letterCount++;
@@ -427,14 +428,9 @@ public final class RatchetPost {
     }
 
     private int finishOpening(long[] letter) {
-        latestText = letter[CIPHER] ^ cover();
+        latestText = letter[CIPHER] ^ mixer.wideWord(messageKey, 9, 0, 0, 0);
         trial.answered = true;
         return OPENED;
-    }
-
-    /** What hides a text that is sealed with the present message key. */
-    private long cover() {
-        return mixer.wideWord(messageKey, 9, 0, 0, 0);
     }
 
     /** The tag that is due to an envelope with the present message key; its users and numbers must be sound. */
@@ -463,20 +459,16 @@ public final class RatchetPost {
         return (int) x;
     }
 
-    private static int product(int a, int b) {
-        return (int) ((long) a * b % P);
-    }
-
     private static int raised(int base, int exponent) {
-        int result = 1;
-        int square = base;
+        long result = 1;
+        long square = base;
         for (int bit = 0; bit < 31; bit++) {
             if ((exponent >>> bit & 1) == 1) {
-                result = product(result, square);
+                result = result * square % P;
             }
-            square = product(square, square);
+            square = square * square % P;
         }
-        return result;
+        return (int) result;
     }
 
     /** MIX, with rows of its own, so that no mixing makes anything. */
@@ -595,7 +587,8 @@ public final class RatchetPost {
             if (!isGroupKey(identity) || !isGroupKey(signed) || !isGroupKey(nonce) || proof < 0 || proof > P - 2) {
                 return false;
             }
-            return raised(G, proof) == product(nonce, raised(identity, challenge(mixer)));
+            long due = (long) nonce * raised(identity, challenge(mixer)) % P;
+            return raised(G, proof) == due;
         }
 
         /** The number h of a signature, made of the keys that stand here now. */

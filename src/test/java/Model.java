@@ -118,11 +118,16 @@ final class Model {
             .mod(BigInteger.valueOf(P - 1)).intValue();
     }
 
-    static Pair draw(Usr u) {
-        u.count++;
-        int[] k = {(int) u.entropy, (int) (u.entropy >> 32), u.number, 0, 0, 0, 0, 0};
-        int w = mix(k, u.count, 1, 0, 0)[0];
+    /** The pair that a user draws as its count becomes n. */
+    static Pair drawn(int u, long entropy, int n) {
+        int[] k = {(int) entropy, (int) (entropy >> 32), u, 0, 0, 0, 0, 0};
+        int w = mix(k, n, 1, 0, 0)[0];
         return pairOf(2 + (w >>> 1) % (P - 3));
+    }
+
+    private static Pair draw(Usr u) {
+        u.count++;
+        return drawn(u.number, u.entropy, u.count);
     }
 
     private static void sign(Usr u) {
