@@ -184,6 +184,7 @@ public final class BoundsOfEnvelopesTest {
         desk.session(0, 1, 2, 1, 1);
     }
 
+    /** Promise 7: "a message key is taken from its sending chain": nothing else of either user changes. */
     private static void sendingUsesOnlyItsOwnChain() {
         Desk desk = States.begun(DUE, 1);
         int root = desk.session(0, 1, 0, 8);

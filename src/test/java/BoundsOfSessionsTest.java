@@ -27,6 +27,8 @@ public final class BoundsOfSessionsTest {
         theOldSignedPairIsMeant();
         skippedKeysAreUsedOnce();
         skippedBeforeTheirs();
+        skippedKeysOfTwoChains();
+        nothingIsTakenOver();
         eightAheadInANewSession();
         eightAheadInTheSameChain();
         eightLeftBehind();
@@ -428,6 +430,48 @@ public final class BoundsOfSessionsTest {
         desk.session(1, 0, 0, 4, 0);
         desk.open(2, 1);
         desk.user(1, 3, 11);
+    }
+
+    /** "each with a ratchet public key and a number": as one is no more, the others keep theirs. */
+    private static void skippedKeysOfTwoChains() {
+        for (int used = 1; used < 4; used++) {
+            Desk desk = leftBehind(3, 3);
+            desk.open(7, 0);
+            desk.session(1, 0, 0, 4, 5);
+            desk.open(used, 0);
+            for (int e : new int[] {5, 6, 1, 2, 3}) {
+                desk.open(e, e == used ? 1 : 0);
+            }
+            desk.session(1, 0, 0, 4, 0);
+        }
+    }
+
+    /**
+     * "the numbers NS, NR and PN (0 at first)", and "there is no receiving chain": also after a session that had them
+     * all was tried in vain, and after it fell out of its list.
+     */
+    private static void nothingIsTakenOver() {
+        Desk desk = leftBehind(2, 3);
+        desk.open(5, 0);
+        desk.send(1, 0, 9, 7);
+        desk.open(7, 0);
+        desk.sendMany(0, 1, 2);
+        desk.sendMany(1, 0, 2);
+        desk.open(9, 0);
+        is(desk, 1, 0, 0, base(0), 0, 2, 3, 5);
+        desk.sendMany(1, 0, 3);
+        for (int i = 0; i < 5; i++) {
+            desk.openWith(9, 8, 3, 1);
+            desk.begin(1, 0, 0);
+            int signed = desk.user(0, 1);
+            is(desk, 1, 0, 0, desk.session(1, 0, 0, 0), 0, 0, 0, 0, signed, desk.session(1, 0, 0, 6), 1);
+            long ratchet = desk.envelope(8, 7);
+            desk.write(8, 2, 1);
+            desk.write(8, 7, signed);
+            desk.openWith(8, 8, 1000, 1);
+            desk.write(8, 7, ratchet);
+            desk.openWith(8, 9, 1000, 1);
+        }
     }
 
     /** "(3) .. TOO FAR if n - NR is above 8", NR being 0 in a new session. */

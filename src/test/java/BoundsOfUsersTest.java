@@ -24,6 +24,7 @@ public final class BoundsOfUsersTest {
         fewerWhenThereAreTenPairs();
         bothBoundsAtOnce();
         inTheOrderInWhichTheyWereMade();
+        newPairsLeaveTheOthers();
         anyMaskSpoils();
         onlyTheEntryIsSpoilt();
         theFirstKeyIsHandedOut();
@@ -199,7 +200,6 @@ public final class BoundsOfUsersTest {
                 desk.rotate(1, true);
                 desk.user(1, 2, signed);
             }
-            desk.unchangedBy("looking", d -> d.user(1, 2));
             desk.open(0, turns < 2 ? 0 : 3);
             desk.user(1, 4, turns < 2 ? 0 : 1);
         }
@@ -327,6 +327,34 @@ public final class BoundsOfUsersTest {
         for (int e = 6; e >= 0; e--) {
             desk.open(e, 0);
             desk.user(1, 4, e);
+        }
+    }
+
+    /** "ONE-TIME pairs .. in the order in which they were made": one in the middle is no more, and new ones come. */
+    private static void newPairsLeaveTheOthers() {
+        for (int used = 0; used < 4; used++) {
+            Desk desk = States.twoUsers(DUE);
+            desk.prekeys(1, 4, 4);
+            for (int e = 0; e < 4; e++) {
+                desk.begin(0, 1, 0);
+                desk.send(0, 1, 40 + e, e);
+            }
+            desk.open(used, 0);
+            desk.user(1, 4, 3);
+            desk.prekeys(1, 2, 2);
+            desk.user(1, 4, 5);
+            // The last one's session has fallen out when its turn comes again: three newer ones stand in the list.
+            int again = used == 3 ? 3 : 5;
+            for (int e = 0; e < 4; e++) {
+                desk.open(e, e == used ? again : 0);
+                desk.text(40 + (e == used && e > 0 ? e - 1 : e));
+            }
+            desk.user(1, 4, 2);
+            desk.begin(0, 1, 0);
+            desk.send(0, 1, 50, 4);
+            desk.envelope(4, 6, Model.drawn(1, 1002, 9).shown());
+            desk.open(4, 0);
+            desk.user(1, 4, 1);
         }
     }
 
@@ -513,6 +541,7 @@ public final class BoundsOfUsersTest {
         entryGives(0, 1, 44, 7, 1);
         entryGives(1, 1, 44, 7, P);
         entryGives(1, 1, 44, 7, LEAST + 1);
+        entryGives(1, 1, 44, 7, -1);
         entryGives(0, 1, 44, Model.pow(7, P - 2), P - 2);
         entryGives(1, 1, 44, Model.pow(7, P - 2), -1);
         entryGives(1, 1, 44, Model.pow(7, P - 2), -2);
